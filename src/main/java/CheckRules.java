@@ -553,7 +553,6 @@ public final class CheckRules {
             tree.clear();
             place = 0;
             depth = 0;
-            compared = false;
             beginLevel(0);
             // A token takes one sign at least, so the end comes within these rounds.
             for (int round = 0; round <= MOST_SIGNS; round++) {
@@ -637,7 +636,7 @@ public final class CheckRules {
                 case '+':
                 case '-':
                     state = WANTS_TERM;
-                    return tree.insert(sumStart, KIND_SIGNS.indexOf(token));
+                    return tree.insert(sumStart, kindOfToken());
                 case '<':
                 case '>':
                 case '=':
@@ -649,7 +648,7 @@ public final class CheckRules {
         }
 
         private boolean compare() {
-            if (!tree.insert(sumStart, KIND_SIGNS.indexOf(token))) {
+            if (!tree.insert(sumStart, kindOfToken())) {
                 return false;
             }
             compared = true;
@@ -658,17 +657,21 @@ public final class CheckRules {
             return true;
         }
 
+        private int kindOfToken() {
+            return KIND_SIGNS.indexOf((char) token);
+        }
+
         private boolean takeBehindPart() {
             if (level < 0 || level >= depths.length) {
                 return false;
             }
+            // Whatever ! or ( stood ahead of this on the level is closed by now.
+            depth = depths[level];
             switch (token) {
                 case '&':
-                    depth = depths[level];
                     state = WANTS_PART;
                     return tree.insert(andStarts[level], AND);
                 case '|':
-                    depth = depths[level];
                     state = WANTS_PART;
                     boolean fits = tree.insert(ruleStarts[level], OR);
                     andStarts[level] = tree.size();
@@ -705,7 +708,6 @@ public final class CheckRules {
                 return false;
             }
             level--;
-            depth = depths[level];
             state = BEHIND_PART;
             return true;
         }

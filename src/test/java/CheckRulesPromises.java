@@ -207,7 +207,12 @@ public final class CheckRulesPromises {
         place("su f1<1", 0);
         place("al(1<2)", 0);
         place("alls(1<2)", 0);
+        place("allz(1<2)", 0);
+        place("zall(1<2)", 0);
+        place("fz1=1", 0);
         place("ALL(1<2)", 0);
+        place("all1<2", 3);
+        place("1<2&al", 4);
         place("1<2 x", 4);
         place("1<2;", 3);
         place("s um f1<1", 0);
