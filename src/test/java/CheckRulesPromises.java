@@ -1,13 +1,5 @@
-import java.util.function.IntSupplier;
-
 /** Each promise of the document by itself: ordinary inputs, edges and wrong inputs. */
-public final class CheckRulesPromises {
-    private static final int STATE = -1001;
-    private static final int ARGUMENT = -1002;
-    private static final int INDEX = -1003;
-    private static int wrong = 0;
-    private static int done = 0;
-
+public final class CheckRulesPromises extends Answers {
     public static void main(String[] args) {
         newObject();
         signs();
@@ -35,93 +27,10 @@ public final class CheckRulesPromises {
         touches();
         nevers();
         nodes();
-        prints();
+        printing();
         ats();
         counts();
-        System.out.println(done + " answers looked at, " + wrong + " not as due");
-        if (wrong != 0) {
-            System.exit(1);
-        }
-    }
-
-    private static void due(String what, int want, int got) {
-        done++;
-        if (want != got) {
-            wrong++;
-            System.out.println(what + ": due " + want + ", answered " + got);
-        }
-    }
-
-    private static void yes(String what, boolean got) {
-        due(what, 1, got ? 1 : 0);
-    }
-
-    private static void no(String what, boolean got) {
-        due(what, 0, got ? 1 : 0);
-    }
-
-    /** The answer, or a number that stands for the very exception. */
-    private static int call(IntSupplier call) {
-        try {
-            return call.getAsInt();
-        } catch (RuntimeException e) {
-            if (e.getClass() == IllegalStateException.class) {
-                return STATE;
-            }
-            if (e.getClass() == IllegalArgumentException.class) {
-                return ARGUMENT;
-            }
-            if (e.getClass() == IndexOutOfBoundsException.class) {
-                return INDEX;
-            }
-            throw e;
-        }
-    }
-
-    private static void type(CheckRules x, String text) {
-        for (int i = 0; i < text.length(); i++) {
-            yes("sign of " + text, x.sign(text.charAt(i)));
-        }
-    }
-
-    private static int rule(CheckRules x, String text) {
-        type(x, text);
-        return call(x::rule);
-    }
-
-    private static CheckRules with(String... texts) {
-        CheckRules x = new CheckRules();
-        for (int i = 0; i < texts.length; i++) {
-            due("rule " + texts[i], i, rule(x, texts[i]));
-        }
-        return x;
-    }
-
-    private static void place(String text, int place) {
-        due("place in '" + text + "'", -1 - place, rule(new CheckRules(), text));
-    }
-
-    private static void fine(String text) {
-        due("rule '" + text + "'", 0, rule(new CheckRules(), text));
-    }
-
-    private static String printed(CheckRules x, int rule) {
-        int length = call(() -> x.print(rule));
-        StringBuilder b = new StringBuilder();
-        for (int i = 0; i < length; i++) {
-            b.append((char) x.at(i));
-        }
-        due("at behind the end", INDEX, call(() -> x.at(length)));
-        return b.toString();
-    }
-
-    private static void prints(String text, String want) {
-        String got = printed(with(text), 0);
-        done++;
-        if (!got.equals(want)) {
-            wrong++;
-            System.out.println("print of " + text + ": due " + want + ", answered " + got);
-        }
+        tell();
     }
 
     // Promise 1
@@ -253,10 +162,6 @@ public final class CheckRulesPromises {
         place("|1<2", 0);
         fine("any ( ! ( 1<2 ) )");
         fine("((1<2)|(1<2))&!!1<2");
-    }
-
-    private static String many(String piece, int times) {
-        return piece.repeat(times);
     }
 
     private static void nodeLimit() {
@@ -440,12 +345,6 @@ public final class CheckRulesPromises {
         due("none in a plus", 2, isOf("f0+1=1"));
         due("none in a minus", 2, isOf("1-f0#1"));
         due("beyond a million", 1, isOf("9999999+9999999-9999998=9999999+1"));
-    }
-
-    private static int isOf(String text) {
-        CheckRules x = new CheckRules();
-        int number = rule(x, text);
-        return number == 0 ? x.is(0) : number;
     }
 
     private static void sumsAndCounts() {
@@ -697,7 +596,7 @@ public final class CheckRulesPromises {
     }
 
     // Promise 17
-    private static void prints() {
+    private static void printing() {
         prints(" 1 <  2 ", "1<2");
         prints("0012<000", "12<0");
         prints("f07=f19", "f7=f19");
