@@ -28,7 +28,6 @@ public final class CheckRulesCheckingEdges extends Answers {
         noValueInASum();
         comparisons();
         notKnown();
-        threeAnswers();
         allWithoutLines();
         allOverEachLine();
         anyOverEachLine();
@@ -436,21 +435,6 @@ public final class CheckRulesCheckingEdges extends Answers {
         due("a count always has one", 1, isOf("count f0=0"));
     }
 
-    private static void threeAnswers() {
-        sentence("Terms, NOT, AND and OR of three answers");
-        String[] sides = {"0=1", "0=0", "f0=0"};
-        int[][] and = {{0, 0, 0}, {0, 1, 2}, {0, 2, 2}};
-        int[][] or = {{0, 1, 2}, {1, 1, 1}, {2, 1, 2}};
-        int[] not = {1, 0, 2};
-        for (int a = 0; a < 3; a++) {
-            due("NOT " + a, not[a], isOf("!" + sides[a]));
-            for (int b = 0; b < 3; b++) {
-                due(a + " AND " + b, and[a][b], isOf(sides[a] + "&" + sides[b]));
-                due(a + " OR " + b, or[a][b], isOf(sides[a] + "|" + sides[b]));
-            }
-        }
-    }
-
     private static void allWithoutLines() {
         sentence("Terms, ALL is 1 without any line that is there; ANY 0");
         CheckRules x = with("all(1=2)", "any(1=1)", "all(f0=1)", "any(f0=1)", "all(any(1=1))", "any(all(1=2))");
@@ -475,52 +459,37 @@ public final class CheckRulesCheckingEdges extends Answers {
 
     private static void allOverEachLine() {
         sentence("Terms, ALL is the AND over the lines 1 .. 9 that are there");
-        CheckRules x = with("all(f0=1)");
-        for (int line = 1; line <= 9; line++) {
-            yes("1 on line " + line, x.field(0, line, 1));
-            due("1 on lines up to " + line, 1, x.is(0));
-        }
-        yes("the head counts not", x.field(0, 0, 2));
-        due("all 9", 1, x.is(0));
-        for (int line = 1; line <= 9; line++) {
-            yes("0 on it", x.field(0, line, 2));
-            due("0 on line " + line + " alone", 0, x.is(0));
-            yes("there by another field", x.field(1, line, 1));
-            yes("none on it", x.without(0, line));
-            due("2 on line " + line + " alone", 2, x.is(0));
-            yes("not there", x.without(1, line));
-            due("line " + line + " is not there", 1, x.is(0));
-            yes("1 again", x.field(0, line, 1));
-        }
-        yes("0 on line 1", x.field(0, 1, 2));
-        yes("line 9 by another", x.field(1, 9, 1));
-        yes("2 on line 9", x.without(0, 9));
-        due("0 ahead of 2", 0, x.is(0));
+        overEachLine("all(f0=1)", 1, 0);
     }
 
     private static void anyOverEachLine() {
         sentence("Terms, ANY is the OR over the lines 1 .. 9 that are there");
-        CheckRules x = with("any(f0=1)");
+        overEachLine("any(f0=1)", 0, 1);
+    }
+
+    /** The answer that all lines are to have for it, and the one that is enough on one line. */
+    private static void overEachLine(String text, int common, int enough) {
+        CheckRules x = with(text);
         for (int line = 1; line <= 9; line++) {
-            yes("0 on line " + line, x.field(0, line, 2));
-            due("0 on lines up to " + line, 0, x.is(0));
+            yes("line " + line, x.field(0, line, common));
+            due("lines up to " + line, common, x.is(0));
         }
-        yes("the head counts not", x.field(0, 0, 1));
-        due("all 9", 0, x.is(0));
+        yes("the head counts not", x.field(0, 0, enough));
+        due("all 9", common, x.is(0));
         for (int line = 1; line <= 9; line++) {
-            yes("1 on it", x.field(0, line, 1));
-            due("1 on line " + line + " alone", 1, x.is(0));
+            yes("another", x.field(0, line, enough));
+            due("another on line " + line + " alone", enough, x.is(0));
             yes("there by another field", x.field(1, line, 1));
             yes("none on it", x.without(0, line));
             due("2 on line " + line + " alone", 2, x.is(0));
             yes("not there", x.without(1, line));
-            due("line " + line + " is not there", 0, x.is(0));
-            yes("0 again", x.field(0, line, 2));
+            due("line " + line + " is not there", common, x.is(0));
+            yes("as it was", x.field(0, line, common));
         }
-        yes("1 on line 1", x.field(0, 1, 1));
+        yes("enough on line 1", x.field(0, 1, enough));
         yes("line 9 by another", x.field(1, 9, 1));
         yes("2 on line 9", x.without(0, 9));
-        due("1 ahead of 2", 1, x.is(0));
+        due("line 1 is enough, 2 or not", enough, x.is(0));
     }
 
     private static void workedOutOnItsLine() {
@@ -819,6 +788,8 @@ public final class CheckRulesCheckingEdges extends Answers {
         checked("and the one behind it", x, -1, 0, 1);
         yes("hard", x.order(0, 0, true));
         checked("has an ANSWER, so it is not BAD", x, -1, 0, 1);
+        yes("soft", x.order(0, 5, false));
+        checked("the ANSWER is with it all the time", x, -1, 0, 1);
     }
 
     private static void answerGoes() {
@@ -876,8 +847,12 @@ public final class CheckRulesCheckingEdges extends Answers {
         yes("day", x.day(4));
         checked("left out", x, -1, 0, 0);
         yes("an answer to one that is left out", x.answer(0));
-        put(x, 0);
+        yes("a later edition", x.edition(0, 6));
         yes("day", x.day(5));
+        checked("left out by its edition", x, -1, 0, 0);
+        yes("the edition again", x.edition(0, 5));
+        checked("as it was", x, -1, 0, 0);
+        put(x, 0);
         checked("another", x, -1, 0, 1);
     }
 
@@ -911,6 +886,9 @@ public final class CheckRulesCheckingEdges extends Answers {
         yes("answer", x.answer(3));
         due("check", 2, x.check());
         due("an answer is not MET", 3, x.never(0));
+        yes("later", x.edition(3, 6));
+        due("check", 2, x.check());
+        due("left out by a check it stays one", 3, x.never(0));
     }
 
     private static void neverOfTwenty() {

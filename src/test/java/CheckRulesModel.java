@@ -267,7 +267,8 @@ public final class CheckRulesModel {
 
         private void due(String call, int want, int got) {
             calls++;
-            if (want != got) {
+            // The last step may go past the calls that an object is promised for; their answers are free.
+            if (want != got && calls <= CALLS) {
                 wrong++;
                 System.out.println("run " + number + ": " + call + " due " + want + ", answered " + got);
             }

@@ -32,6 +32,7 @@ public final class CheckRulesReadingEdges extends Answers {
         closedIsNotOpen();
         firstOfSeveralWrongPlaces();
         endsTooEarly();
+        all200SignsAreRead();
         firstAndLastWrongPlace();
         textIsUsedUp();
         numbersOfRules();
@@ -434,6 +435,18 @@ public final class CheckRulesReadingEdges extends Answers {
         return word ? length : from;
     }
 
+    private static void all200SignsAreRead() {
+        sentence("Terms, THE TEXT has 200 signs at most: each of them is read");
+        String nine = many("(", 9) + "1<2" + many(")", 9);
+        String full = "!" + many(nine + "&", 8) + "(" + nine + ")";
+        due("signs", 200, full.length());
+        fine(full);
+        place(full.substring(0, 199), 199);
+        place(full.substring(0, 199) + "]", 199);
+        place(full.substring(0, 199) + " ", 200);
+        place("!" + full.substring(0, 199), 10);
+    }
+
     private static void firstAndLastWrongPlace() {
         sentence("Promise 3, -1 less THE FIRST WRONG PLACE");
         due("no text: place 0", -1, call(() -> new CheckRules().rule()));
@@ -456,6 +469,12 @@ public final class CheckRulesReadingEdges extends Answers {
         due("nothing of it comes back", 1, rule(x, "1<3"));
         due("nodes left from before are none of it", 3, x.count(101));
         due("its number", 3, x.node(1, 2, 1));
+        due("wrong at the 11th deep", -11, rule(x, many("(", 11)));
+        due("wrong with 10 open", -11, rule(x, many("!", 10)));
+        due("nothing of it is open any more", 2, rule(x, closed(many("(", 10))));
+        due("wrong at the 41st node", -41, rule(x, nodes(42)));
+        due("no node of it is left", 3, rule(x, nodes(40)));
+        due("40 nodes", 40, x.count(103));
     }
 
     private static void numbersOfRules() {
@@ -692,6 +711,8 @@ public final class CheckRulesReadingEdges extends Answers {
         due("signs of a text are not printed", '<', x.at(1));
         due("rule", 2, call(x::rule));
         due("a rule is not printed by being read", '1', x.at(0));
+        due("a wrong text", -3, rule(x, "f1"));
+        due("nor does it take away what was printed", '2', x.at(2));
     }
 
     private static void countsOfText() {
