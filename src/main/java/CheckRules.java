@@ -396,10 +396,10 @@ public final class CheckRules {
         }
 
         private Tree(Tree other) {
-            kinds = Arrays.copyOf(other.kinds, other.used);
-            values = Arrays.copyOf(other.values, other.used);
-            rights = Arrays.copyOf(other.rights, other.used);
-            used = other.used;
+            used = Math.max(0, Math.min(other.used, MOST_NODES));
+            kinds = Arrays.copyOf(other.kinds, used);
+            values = Arrays.copyOf(other.values, used);
+            rights = Arrays.copyOf(other.rights, used);
         }
 
         Tree copy() {
@@ -875,8 +875,10 @@ public final class CheckRules {
                     return left > right;
                 case SAME:
                     return left == right;
-                default:
+                case OTHER:
                     return left != right;
+                default:
+                    return false;
             }
         }
 
